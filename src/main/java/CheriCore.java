@@ -7,6 +7,7 @@
 public final class CheriCore {
     private static final long SPACE = 1L << 32;
     private static final long LOW_32_BITS = SPACE - 1;
+    private static final long LOW_33_BITS = 2 * SPACE - 1;
     private static final int NULL_META = 1000194;
     private static final int BOUNDS_BITS = 0x7FFF;
     private static final int INNER_EXPONENT = 1 << 14;
@@ -62,7 +63,6 @@ public final class CheriCore {
 
     private static final int WORDS = 4096;
     private static final int BYTES = 16384;
-    private static final int WAYS = 2;
     private static final int NOWHERE = -1;
     private static final int MOST_ROOTS = 8;
     private static final int MOST_STEPS = 10000;
@@ -108,7 +108,7 @@ public final class CheriCore {
         long from = base & LOW_32_BITS;
         packer.fit(from, from + length);
         Capability made = state.registers[r];
-        made.define(true, base, perms << PERMS_AT | OPEN << TYPE_AT | packer.bits);
+        made.define(true, base, (perms << PERMS_AT) | (OPEN << TYPE_AT) | packer.bits);
         roots[rootCount].become(made);
         rootCount++;
         return (int) made.base;
@@ -295,15 +295,15 @@ public final class CheriCore {
         }
 
         void setType(int type) {
-            meta = meta & ~(15 << TYPE_AT) | type << TYPE_AT;
+            meta = (meta & ~(15 << TYPE_AT)) | (type << TYPE_AT);
         }
 
         void setPerms(int perms) {
-            meta = meta & ~(MOST_PERMS << PERMS_AT) | perms << PERMS_AT;
+            meta = (meta & ~(MOST_PERMS << PERMS_AT)) | (perms << PERMS_AT);
         }
 
         void setBounds(int bits) {
-            meta = meta & ~BOUNDS_BITS | bits;
+            meta = (meta & ~BOUNDS_BITS) | bits;
             settle();
         }
 
@@ -312,11 +312,11 @@ public final class CheriCore {
         }
 
         boolean may(int perm) {
-            return (perms() >>> perm & 1) != 0;
+            return ((perms() >>> perm) & 1) != 0;
         }
 
         int type() {
-            return meta >>> TYPE_AT & 15;
+            return (meta >>> TYPE_AT) & 15;
         }
 
         boolean isOpen() {
@@ -343,7 +343,7 @@ public final class CheriCore {
         private void settle() {
             boolean inner = (meta & INNER_EXPONENT) != 0;
             int low = meta & 255;
-            int high = meta >>> 8 & 63;
+            int high = (meta >>> 8) & 63;
             int exponent = 0;
             if (inner) {
                 exponent = Math.min((high & 7) * 8 + (low & 7), LARGEST_EXPONENT);
@@ -354,17 +354,17 @@ public final class CheriCore {
             high |= (aboveHigh & 3) << 6;
             long place = address & LOW_32_BITS;
             int middle = (int) (place >>> exponent) & 255;
-            int edge = (low >>> 5) - 1 & 7;
-            long region = (place >>> exponent + 8) - isBelow(middle, edge);
-            base = (region + isBelow(low, edge) << exponent + 8) + ((long) low << exponent) & LOW_32_BITS;
-            top = (region + isBelow(high, edge) << exponent + 8) + ((long) high << exponent) & (SPACE << 1) - 1;
-            if (exponent < LARGEST_EXPONENT - 1 && ((top >>> 31) - (base >>> 31) & 3) > 1) {
+            int edge = ((low >>> 5) - 1) & 7;
+            long region = (place >>> (exponent + 8)) - below(middle, edge);
+            base = (((region + below(low, edge)) << 8) + low) << exponent & LOW_32_BITS;
+            top = (((region + below(high, edge)) << 8) + high) << exponent & LOW_33_BITS;
+            if (exponent < LARGEST_EXPONENT - 1 && (((top >>> 31) - (base >>> 31)) & 3) > 1) {
                 top ^= SPACE;
             }
         }
 
-        private static int isBelow(int bits, int edge) {
-            return bits >>> 5 < edge ? 1 : 0;
+        private static int below(int bits, int edge) {
+            return (bits >>> 5) < edge ? 1 : 0;
         }
     }
 
@@ -384,7 +384,7 @@ public final class CheriCore {
             if (inner) {
                 low = roundedDown(from);
                 high = roundedUp(to);
-                if (high - low >>> exponent + 3 >= 16) {
+                if ((high - low) >>> (exponent + 3) >= 16) {
                     exponent++;
                     low = roundedDown(from);
                     high = roundedUp(to);
@@ -394,41 +394,47 @@ public final class CheriCore {
             length = high - low;
             int b = (int) (low >>> exponent) & 255;
             int t = (int) (high >>> exponent) & 63;
-            bits = inner ? INNER_EXPONENT | (t | exponent >>> 3) << 8 | b | exponent & 7 : t << 8 | b;
+            bits = (t << 8) | b;
+            if (inner) {
+                bits |= INNER_EXPONENT | ((exponent >>> 3) << 8) | (exponent & 7);
+            }
         }
 
         private long roundedDown(long x) {
-            return x >>> exponent + 3 << exponent + 3;
+            return x & -(8L << exponent);
         }
 
         private long roundedUp(long x) {
-            return x + (8L << exponent) - 1 >>> exponent + 3 << exponent + 3;
+            long unit = 8L << exponent;
+            return (x + unit - 1) & -unit;
         }
 
         private static int bitsOf(long x) {
             int n = 0;
-            while (n < 63 && x >>> n != 0) {
+            while (n < 63 && (x >>> n) != 0) {
                 n++;
             }
             return n;
         }
     }
 
-    /** Which line stands in which slot of a cache: a set has two slots, and the one used longer ago goes first. */
+    /** Which line stands in which slot of the cache: a set has two slots, and the one used longer ago goes first. */
     private static final class Directory {
-        final int[] lines;
-        private final int[] nextWay;
+        static final int SETS = 16;
+        static final int WAYS = 2;
+        static final int SLOTS = SETS * WAYS;
 
-        Directory(int sets) {
-            lines = new int[sets * WAYS];
-            nextWay = new int[sets];
-            for (int slot = 0; slot < lines.length; slot++) {
+        final int[] lines = new int[SLOTS];
+        private final int[] nextWay = new int[SETS];
+
+        Directory() {
+            for (int slot = 0; slot < SLOTS; slot++) {
                 lines[slot] = NOWHERE;
             }
         }
 
         int find(int line) {
-            int first = (line & nextWay.length - 1) * WAYS;
+            int first = (line % SETS) * WAYS;
             for (int slot = first; slot < first + WAYS; slot++) {
                 if (lines[slot] == line) {
                     return slot;
@@ -438,7 +444,7 @@ public final class CheriCore {
         }
 
         int victim(int line) {
-            int set = line & nextWay.length - 1;
+            int set = line % SETS;
             return set * WAYS + nextWay[set];
         }
 
@@ -448,8 +454,8 @@ public final class CheriCore {
 
         int doubles() {
             int wrong = 0;
-            for (int slot = 0; slot < lines.length; slot++) {
-                for (int other = slot + 1; other < lines.length; other++) {
+            for (int slot = 0; slot < SLOTS; slot++) {
+                for (int other = slot + 1; other < SLOTS; other++) {
                     wrong += lines[slot] != NOWHERE && lines[slot] == lines[other] ? 1 : 0;
                 }
             }
@@ -489,19 +495,23 @@ public final class CheriCore {
         }
 
         int ofLine(int line) {
-            return cached[line / LINES_IN_ROW % SLOTS] >>> line % LINES_IN_ROW * 4 & 15;
+            int at = 4 * (line % LINES_IN_ROW);
+            return (cached[(line / LINES_IN_ROW) % SLOTS] >>> at) & 15;
         }
 
         void keep(int line, int tags) {
-            int slot = line / LINES_IN_ROW % SLOTS;
-            cached[slot] = cached[slot] & ~(15 << line % LINES_IN_ROW * 4) | tags << line % LINES_IN_ROW * 4;
+            int slot = (line / LINES_IN_ROW) % SLOTS;
+            int at = 4 * (line % LINES_IN_ROW);
+            cached[slot] = (cached[slot] & ~(15 << at)) | (tags << at);
             written[slot] = true;
         }
 
         int seenOfLine(int line) {
             int row = line / LINES_IN_ROW;
             int slot = row % SLOTS;
-            return (held[slot] == row ? cached[slot] : rows[row]) >>> line % LINES_IN_ROW * 4 & 15;
+            int seen = held[slot] == row ? cached[slot] : rows[row];
+            int at = 4 * (line % LINES_IN_ROW);
+            return (seen >>> at) & 15;
         }
 
         int wrongs() {
@@ -519,15 +529,14 @@ public final class CheriCore {
 
     /** Memory behind a cache of lines (eight words and their four tags each) that is written back. */
     private static final class Memory {
-        private static final int SETS = 16;
         private static final int LINE = 8;
 
         private final int[] words = new int[WORDS];
         private final TagStore tagStore = new TagStore();
-        private final Directory directory = new Directory(SETS);
-        private final int[] cached = new int[SETS * WAYS * LINE];
-        private final int[] cachedTags = new int[SETS * WAYS];
-        private final boolean[] written = new boolean[SETS * WAYS];
+        private final Directory directory = new Directory();
+        private final int[] cached = new int[Directory.SLOTS * LINE];
+        private final int[] cachedTags = new int[Directory.SLOTS];
+        private final boolean[] written = new boolean[Directory.SLOTS];
 
         int readWord(int i) {
             return cached[slotOf(i / LINE) * LINE + i % LINE];
@@ -569,7 +578,7 @@ public final class CheriCore {
 
         int wrongs() {
             int wrong = directory.doubles() + tagStore.wrongs();
-            for (int slot = 0; slot < cachedTags.length; slot++) {
+            for (int slot = 0; slot < Directory.SLOTS; slot++) {
                 int line = directory.lines[slot];
                 if (line == NOWHERE) {
                     wrong += Integer.bitCount(cachedTags[slot]);
@@ -590,7 +599,7 @@ public final class CheriCore {
         }
 
         private static int tagBit(int i) {
-            return 1 << i % LINE / 2;
+            return 1 << ((i % LINE) / 2);
         }
 
         private int seenTags(int line) {
@@ -635,10 +644,10 @@ public final class CheriCore {
             index = newIndex;
             bits = newBits;
             opcode = bits & 127;
-            rd = bits >>> 7 & 31;
-            function = bits >>> 12 & 7;
-            rs1 = bits >>> 15 & 31;
-            rs2 = bits >>> 20 & 31;
+            rd = (bits >>> 7) & 31;
+            function = (bits >>> 12) & 7;
+            rs1 = (bits >>> 15) & 31;
+            rs2 = (bits >>> 20) & 31;
             number = bits >>> 25;
             immediate = immediateOf();
         }
@@ -649,11 +658,11 @@ public final class CheriCore {
                 case BaseUnit.AUIPC:
                     return bits & 0xFFFFF000;
                 case BaseUnit.JAL:
-                    return bits >> 31 << 20 | bits & 0xFF000 | bits >>> 9 & 0x800 | bits >>> 20 & 0x7FE;
+                    return ((bits >> 31) << 20) | (bits & 0xFF000) | ((bits >>> 9) & 0x800) | ((bits >>> 20) & 0x7FE);
                 case BaseUnit.BRANCH:
-                    return bits >> 31 << 12 | bits << 4 & 0x800 | bits >>> 20 & 0x7E0 | bits >>> 7 & 0x1E;
+                    return ((bits >> 31) << 12) | ((bits << 4) & 0x800) | ((bits >>> 20) & 0x7E0) | (rd & 0x1E);
                 case BaseUnit.STORES:
-                    return bits >> 25 << 5 | rd;
+                    return ((bits >> 25) << 5) | rd;
                 default:
                     return bits >> 20;
             }
@@ -755,7 +764,7 @@ public final class CheriCore {
             if (!registers[register].covers(x, bytes)) {
                 return capabilityFault(register, WRONG_BOUNDS);
             }
-            if ((x & bytes - 1) != 0) {
+            if ((x & (bytes - 1)) != 0) {
                 return fault(trapOfMultiple, x);
             }
             return x >= 0 && x < BYTES ? NO_TRAP : fault(trapOfMultiple + 1, x);
@@ -918,7 +927,7 @@ public final class CheriCore {
                 return state.illegal(in);
             }
             Capability c = state.registers[in.rs1];
-            int x = c.address + in.immediate & ~1;
+            int x = (c.address + in.immediate) & ~1;
             int wrong = wrongOfJump(c, in.immediate, x);
             if (wrong != 0) {
                 return state.capabilityFault(in.rs1, wrong);
@@ -965,7 +974,7 @@ public final class CheriCore {
         }
 
         private int loaded(int function, int x) {
-            int bits = state.memory.readWord(x >>> 2) >>> (x & 3) * 8;
+            int bits = state.memory.readWord(x >>> 2) >>> (8 * (x & 3));
             switch (function) {
                 case 0: return (byte) bits;
                 case 1: return (short) bits;
@@ -1031,9 +1040,9 @@ public final class CheriCore {
 
         private void storeNumber(int x, int bytes, int number) {
             int i = x >>> 2;
-            int at = (x & 3) * 8;
-            int mask = bytes == 4 ? -1 : (1 << bytes * 8) - 1 << at;
-            state.memory.writeWord(i, state.memory.readWord(i) & ~mask | number << at & mask);
+            int at = 8 * (x & 3);
+            int mask = bytes == 4 ? -1 : ((1 << (8 * bytes)) - 1) << at;
+            state.memory.writeWord(i, (state.memory.readWord(i) & ~mask) | ((number << at) & mask));
             state.pipeline.squash(i);
         }
 
