@@ -121,6 +121,7 @@ public final class CapabilityInstructionTest {
         build(t, "a part that begins before", false, 0x0A7, Code.incOffset(1, 1, 17), Code.setBounds(1, 1, 40));
         build(t, "a part that ends behind", false, 0x0A7, Code.incOffset(1, 1, 16), Code.setBounds(1, 1, 31));
         build(t, "just that part", true, 0x0A7, Code.incOffset(1, 1, 16), Code.setBounds(1, 1, 32));
+        build(t, "nothing at the end", true, 0x0A7, Code.incOffset(5, 5, 32), Code.setBounds(5, 5, 0));
         // BASE 2^29 and TOP 0: neither is outside, but they are not in order.
         Bench b = new Bench(t, Code.cap(29, 6, 1, 5)).root(1, 0, 16384, 4095);
         b.core.put(5, 0, 8);

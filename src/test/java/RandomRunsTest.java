@@ -2,7 +2,7 @@ import java.util.Random;
 
 /** Many runs of calls, drawn from fixed seeds, on CheriCore and on PlainModel: their answers must be the same. */
 public final class RandomRunsTest {
-    private static final int RUNS = 1500;
+    private static final int RUNS = 3000;
     private static final int CALLS = 200;
     private static final int HANDLER = 3072;
     private static final int CODE = 300;

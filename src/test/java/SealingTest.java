@@ -104,6 +104,9 @@ public final class SealingTest {
         int[] by31 = {seal(31, 1, 3), seal(6, 2, 3), Code.invoke(31, 6)};
         Bench own = bench(t, 258, 256, by31).run(3).dueNoTrap("by register 31", CODE);
         own.dueCap("data", 31, true, DATA, DATA, 64).dueCap("PCC", 32, true, CODE, CODE, 64);
+        int[] between = {seal(5, 1, 3), seal(6, 2, 3), Code.inspect(10, 7, 1), Code.invoke(5, 6)};
+        Bench later = bench(t, 258, 256, between).run(4).dueNoTrap("later", CODE);
+        later.dueCap("data, later", 31, true, DATA, DATA, 64).dueKind("data, later", 31, 256, 15);
         for (int rd = 0; rd < 32; rd++) {
             int none = Code.cap(126, rd, 5, 6);
             if (rd != 1) {

@@ -51,6 +51,14 @@ public final class StagesTest {
         Bench b = new Bench(t, code).root(1, 0, 16384, 4095);
         b.core.put(6, Code.addi(5, 0, 7), Code.addi(6, 0, 8));
         b.run(3).dueNumber("the lower four bytes", 5, 7).run(1).dueNumber("the upper four bytes", 6, 8);
+        for (int ahead = 0; ahead < 6; ahead += 2) {
+            int[] even = numbered();
+            even[2] = Code.store(3, 6, 1, 8 + 4 * ahead);
+            Bench e = new Bench(t, even).root(1, 0, 16384, 4095);
+            e.core.put(6, Code.addi(5, 0, 7), Code.addi(7, 0, 8));
+            e.run(4 + ahead).dueNumber("the upper four bytes, " + ahead + " ahead", 7, 8);
+            e.dueNumber("the lower four bytes, " + ahead + " ahead", 5, ahead == 0 ? 101 : 7);
+        }
     }
 
     private static void loopThatChangesItself(Tests t) {
