@@ -1,11 +1,21 @@
+import java.io.IOException;
+import java.nio.file.Files;
+import java.nio.file.Path;
+
 /** Counts what is not as due, prints it, and ends the program with exit code 1 if there was any. */
 final class Tests {
+    private static final Path DOCUMENT = Path.of("../shared/DOC.md");
+
     /** A call of the face whose answer, or whose exception, is looked at. */
     interface Call {
         long answer();
     }
 
     private final String name;
+    private final String document = readDocument();
+    private String sentence = "";
+    private int lookedBefore;
+    private int sentences;
     private int looked;
     private int wrong;
 
@@ -13,32 +23,38 @@ final class Tests {
         this.name = name;
     }
 
+    /** What follows, up to the next sentence, looks at these words of the document. */
+    void says(String words) {
+        endSentence();
+        sentences++;
+        sentence = words;
+        lookedBefore = looked;
+        if (!document.isEmpty() && !document.contains(inOneLine(words))) {
+            complain("the document does not say this");
+        }
+    }
+
     void isTrue(String what, boolean holds) {
         looked++;
         if (!holds) {
-            wrong++;
-            System.out.println(name + ": not so: " + what);
+            complain("not so: " + what);
         }
     }
 
     void due(String what, long got, long want) {
         looked++;
         if (got != want) {
-            wrong++;
-            System.out.println(name + ": " + what + " answered " + got + ", due is " + want);
+            complain(what + " answered " + got + ", due is " + want);
         }
     }
 
     void refused(String what, Class<? extends RuntimeException> kind, Call call) {
         looked++;
         try {
-            long got = call.answer();
-            wrong++;
-            System.out.println(name + ": " + what + " answered " + got + ", due is " + kind.getSimpleName());
+            complain(what + " answered " + call.answer() + ", due is " + kind.getSimpleName());
         } catch (RuntimeException e) {
             if (e.getClass() != kind) {
-                wrong++;
-                System.out.println(name + ": " + what + " threw " + e + ", due is " + kind.getSimpleName());
+                complain(what + " threw " + e + ", due is " + kind.getSimpleName());
             }
         }
     }
@@ -48,9 +64,34 @@ final class Tests {
     }
 
     void end() {
-        System.out.println(name + ": " + looked + " looked at, " + wrong + " not as due");
+        endSentence();
+        System.out.println(name + ": " + (sentences > 0 ? sentences + " sentences, " : "") + looked + " looked at, "
+            + wrong + " not as due");
         if (wrong != 0) {
             System.exit(1);
         }
+    }
+
+    private void endSentence() {
+        if (sentences > 0 && looked == lookedBefore) {
+            complain("nothing was looked at");
+        }
+    }
+
+    private void complain(String what) {
+        wrong++;
+        System.out.println(name + (sentence.isEmpty() ? "" : " \"" + sentence + "\"") + ": " + what);
+    }
+
+    private static String readDocument() {
+        try {
+            return Files.exists(DOCUMENT) ? inOneLine(Files.readString(DOCUMENT)) : "";
+        } catch (IOException e) {
+            return "";
+        }
+    }
+
+    private static String inOneLine(String text) {
+        return text.replaceAll("\\s+", " ");
     }
 }
