@@ -2,10 +2,12 @@
 public final class BoundTest {
     public static void main(String[] args) {
         Tests t = new Tests("promise 11");
+        known(t, new CheriCore());
         CheriCore core = new CheriCore();
-        known(t, core);
         int[] addresses = {0, 1, 31, 32, 255, 256, 0x1234, 0x7FFFFFFF, 0x80000000, 0x89ABCDEF, -1, -32, -256, -100000};
         for (int meta = 0; meta < 32768; meta++) {
+            // An object is used for at most 512 calls.
+            core = meta % 16 == 0 ? new CheriCore() : core;
             for (int address : addresses) {
                 for (int k = 0; k < 2; k++) {
                     long due = k == 0 ? PlainModel.endsOf(meta, address).base() : PlainModel.endsOf(meta, address).top();

