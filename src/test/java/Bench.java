@@ -58,6 +58,8 @@ final class Bench {
         t.due(what + ": number", core.told(r, 1), n);
         t.due(what + ": META of a number", core.told(r, 2), 0);
         t.due(what + ": TAG of a number", core.told(r, 0), 0);
+        t.due(what + ": BASE of a number", core.told(r, 3), 0);
+        t.due(what + ": TOP less BASE of a number", core.told(r, 4), -1);
         return this;
     }
 

@@ -3,6 +3,7 @@ public final class CheckTest {
     public static void main(String[] args) {
         Tests t = new Tests("promise 13");
         everywhere(t);
+        comingAndGoing(t);
         swept(t);
         if (Inside.isOurs(new CheriCore())) {
             seen(t);
@@ -10,19 +11,27 @@ public final class CheckTest {
         t.end();
     }
 
+    /** That it would be seen: what is wrong is put there by hand, in caches that hold little and in full ones. */
     private static void seen(Tests t) {
-        int held = counted(t, filled(t)) + tagStore(t, filled(t));
-        t.isTrue("clean lines and rows: " + held, held > 1 && held < 10);
-        t.due("clean lines and rows of a sweep", counted(t, swept(t)) + tagStore(t, swept(t)), 31 + 8);
+        for (int full = 0; full < 2; full++) {
+            t.says("lines that stand for two places,");
+            twoPlaces(t, full == 0 ? filled(t) : swept(t));
+            t.says("TAGS in lines that no line has,");
+            tagsOfNoLine(t, full == 0 ? filled(t) : swept(t));
+            t.says("such as are not as in MEMORY though they were not written: always 0.");
+            int lines = notAsInMemory(t, full == 0 ? filled(t) : swept(t));
+            int rows = rowsNotAsInMemory(t, full == 0 ? filled(t) : swept(t));
+            t.isTrue("clean lines " + lines, full == 0 ? lines > 0 && lines < 9 : lines == 31);
+            t.isTrue("clean rows " + rows, full == 0 ? rows > 0 && rows < 9 : rows == 8);
+        }
     }
 
-    /** A capability is stored in half of memory, loaded again, and each third of them is overwritten. */
+    /** A capability is stored in each eight bytes of half of memory and loaded again. */
     private static void everywhere(Tests t) {
         int meta = stored(t).core.told(1, 2);
         for (int from = 0; from < 4096; from += 256) {
             tagsOf(t, stored(t), from);
             wordsOf(t, stored(t), from, meta);
-            takenAway(t, stored(t), from);
         }
     }
 
@@ -54,17 +63,39 @@ public final class CheckTest {
         }
     }
 
-    private static void takenAway(Tests t, Bench b, int from) {
-        int taken = 0;
-        for (int i = from; i < from + 252; i += 6) {
-            taken += i >= 256 && i < 2304 ? 1 : 0;
-            b.core.word(i, 0);
-            t.due("check() of a word", b.core.check(), 0);
+    /** A TAG in each third eight bytes; some are taken away; lines leave the cache and come again. */
+    private static void comingAndGoing(Tests t) {
+        for (int from = 256; from < 2304; from += 256) {
+            for (int again = 0; again < 2; again++) {
+                Bench b = sparse(t);
+                sweep(b, 0, 16384);
+                for (int i = from; i < from + 256; i += 10) {
+                    b.core.word(i, 0);
+                }
+                sweep(b, 9216, 16384);
+                if (again == 1) {
+                    sweep(b, 4 * from, 4 * from + 1024);
+                }
+                t.due("check()", b.core.check(), 0);
+                for (int i = from; i < from + 256; i++) {
+                    boolean due = (i - 256) / 2 % 3 == 0 && (i - from) / 2 % 5 != 0;
+                    t.isTrue("tag of " + i + ", " + again, b.core.tag(i) == due);
+                }
+            }
         }
-        for (int i = from; i < from + 252; i++) {
-            t.isTrue("tag left at " + i, b.core.tag(i) == (i >= 256 && i < 2304 && (i - from) / 2 % 3 != 0));
-        }
-        t.due("tags left", b.core.count(6), 1024 - taken);
+    }
+
+    private static Bench sparse(Tests t) {
+        int[] code = {Code.store(3, 1, 1, 0), Code.incOffset(1, 1, 24), Code.branch(1, 1, 9, -8), Code.NOP,
+            Code.cap(16, 3, 3, 10), Code.load(2, 5, 3, 0), Code.incOffset(3, 3, 32), Code.branch(1, 3, 11, -8),
+            Code.jal(0, -16)};
+        Bench b = new Bench(t, code).root(1, 1024, 1024 * 8, 4095).root(3, 0, 16384, 4095);
+        return b.number(9, 1024 + 342 * 24).run(3 * 342 + 1).dueNoTrap("342 stored", 16);
+    }
+
+    /** Loads a word of each line, and stands where it stood. */
+    private static void sweep(Bench b, int from, int to) {
+        b.number(10, from).number(11, to).run(1 + 3 * ((to - from) / 32) + 1).dueNoTrap("swept", 16);
     }
 
     private static Bench filled(Tests t) {
@@ -85,60 +116,103 @@ public final class CheckTest {
         return b;
     }
 
-    /** That it would be seen: what is wrong is put there by hand. Answers how many slots are clean. */
-    private static int counted(Tests t, Bench b) {
-        int[] lines = (int[]) Inside.of(b.core, "state", "memory", "directory", "lines");
-        boolean[] written = (boolean[]) Inside.of(b.core, "state", "memory", "written");
-        int[] cached = (int[]) Inside.of(b.core, "state", "memory", "cached");
-        int[] tags = (int[]) Inside.of(b.core, "state", "memory", "cachedTags");
-        int holding = 0;
-        for (int slot = 0; slot < lines.length; slot++) {
-            boolean was = written[slot];
-            int line = lines[slot];
-            written[slot] = false;
-            lines[slot] = 500;
-            int empty = slot % 2 == 0 ? slot + 1 : slot - 1;
-            int lineThere = lines[empty];
-            lines[empty] = 500;
-            t.isTrue("a line twice", b.core.check() > 0);
-            lines[slot] = line;
-            lines[empty] = lineThere;
-            written[slot] = was;
-            t.due("as it was", b.core.check(), 0);
-            holding += line >= 0 && !was ? 1 : 0;
-            tags[slot] ^= 9;
-            t.due("TAGS that no one wrote", b.core.check(), was ? 0 : 2);
-            tags[slot] ^= 9;
-            for (int k = 0; k < 8; k++) {
-                cached[8 * slot + k] ^= 5;
-                t.due("a word that no one wrote", b.core.check(), line >= 0 && !was ? 1 : 0);
-                cached[8 * slot + k] ^= 5;
-            }
-        }
-        return holding;
+    private static int[] lines(Bench b) {
+        return (int[]) Inside.of(b.core, "state", "memory", "directory", "lines");
     }
 
-    private static int tagStore(Tests t, Bench b) {
+    private static void twoPlaces(Tests t, Bench b) {
+        int[] lines = lines(b);
+        int[] tags = (int[]) Inside.of(b.core, "state", "memory", "cachedTags");
+        boolean[] written = (boolean[]) Inside.of(b.core, "state", "memory", "written");
+        for (int slot = 0; slot < lines.length; slot++) {
+            int other = slot % 2 == 0 ? slot + 1 : (slot + 6) % lines.length;
+            int line = lines[slot];
+            int lineThere = lines[other];
+            boolean was = written[slot];
+            boolean wasThere = written[other];
+            written[slot] = true;
+            written[other] = true;
+            lines[slot] = 333;
+            t.due("a line once", b.core.check(), 0);
+            lines[other] = 333;
+            t.due("a line twice", b.core.check(), 1);
+            lines[slot] = -1;
+            lines[other] = -1;
+            t.due("no line, twice", b.core.check(), Integer.bitCount(tags[slot]) + Integer.bitCount(tags[other]));
+            lines[slot] = line;
+            lines[other] = lineThere;
+            written[slot] = was;
+            written[other] = wasThere;
+            t.due("as it was", b.core.check(), 0);
+        }
+    }
+
+    private static void tagsOfNoLine(Tests t, Bench b) {
+        int[] lines = lines(b);
+        int[] tags = (int[]) Inside.of(b.core, "state", "memory", "cachedTags");
+        for (int slot = 0; slot < lines.length; slot++) {
+            int line = lines[slot];
+            int had = tags[slot];
+            lines[slot] = -1;
+            tags[slot] = 0;
+            t.due("no TAGS", b.core.check(), 0);
+            tags[slot] = 9;
+            t.due("two TAGS", b.core.check(), 2);
+            lines[slot] = line;
+            tags[slot] = had;
+        }
         int[] held = (int[]) Inside.of(b.core, "state", "memory", "tagStore", "held");
         int[] cached = (int[]) Inside.of(b.core, "state", "memory", "tagStore", "cached");
-        boolean[] written = (boolean[]) Inside.of(b.core, "state", "memory", "tagStore", "written");
-        int[] rows = (int[]) Inside.of(b.core, "state", "memory", "tagStore", "rows");
-        int holding = 0;
         for (int slot = 0; slot < held.length; slot++) {
             if (held[slot] < 0) {
                 cached[slot] = 7;
-                t.due("TAGS of no row", b.core.check(), 3);
+                t.due("three TAGS of no row", b.core.check(), 3);
                 cached[slot] = 0;
-            } else if (!written[slot]) {
+            }
+        }
+    }
+
+    /** Answers how many lines are held that no one wrote. */
+    private static int notAsInMemory(Tests t, Bench b) {
+        int[] lines = lines(b);
+        boolean[] written = (boolean[]) Inside.of(b.core, "state", "memory", "written");
+        int[] cached = (int[]) Inside.of(b.core, "state", "memory", "cached");
+        int[] tags = (int[]) Inside.of(b.core, "state", "memory", "cachedTags");
+        int clean = 0;
+        for (int slot = 0; slot < lines.length; slot++) {
+            boolean isClean = lines[slot] >= 0 && !written[slot];
+            clean += isClean ? 1 : 0;
+            if (lines[slot] >= 0) {
+                tags[slot] ^= 9;
+                t.due("TAGS", b.core.check(), isClean ? 2 : 0);
+                tags[slot] ^= 9;
+            }
+            for (int k = 0; k < 8; k++) {
+                cached[8 * slot + k] ^= 5;
+                t.due("a WORD", b.core.check(), isClean ? 1 : 0);
+                cached[8 * slot + k] ^= 5;
+            }
+        }
+        return clean;
+    }
+
+    /** Answers how many rows of TAGS are held that no one wrote. */
+    private static int rowsNotAsInMemory(Tests t, Bench b) {
+        int[] held = (int[]) Inside.of(b.core, "state", "memory", "tagStore", "held");
+        boolean[] written = (boolean[]) Inside.of(b.core, "state", "memory", "tagStore", "written");
+        int[] rows = (int[]) Inside.of(b.core, "state", "memory", "tagStore", "rows");
+        int clean = 0;
+        for (int slot = 0; slot < held.length; slot++) {
+            if (held[slot] >= 0 && !written[slot]) {
                 rows[held[slot]] ^= 1 << 31 | 1;
-                t.due("a row that no one wrote", b.core.check(), 2);
+                t.due("a row", b.core.check(), 2);
                 written[slot] = true;
                 t.due("had it been written", b.core.check(), 0);
                 rows[held[slot]] ^= 1 << 31 | 1;
                 written[slot] = false;
-                holding++;
+                clean++;
             }
         }
-        return holding;
+        return clean;
     }
 }

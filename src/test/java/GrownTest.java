@@ -49,26 +49,54 @@ public final class GrownTest {
         }
     }
 
-    /** That it would be seen: a register and a word get what no program can. */
+    /** That it would be seen: registers and words get what no program can get. */
     private static void counted(Tests t) {
-        Bench b = new Bench(t, Code.store(3, 1, 1, 0)).root(1, 8192, 64, 0x8FD).root(8, 65536, 64, 0x8FD).run(1);
-        Object registers = Inside.of(b.core, "state", "registers");
+        t.says("How many CAPABILITIES with a TAG (in registers and MEMORY) are not in the BOUNDS of one of the ROOTS");
+        Bench b = new Bench(t, Code.store(3, 1, 1, 0)).root(1, 8192, 64, 0x8FD).root(8, 65536, 63, 0x8FD);
+        b.root(9, 65536 + 63, 63, 0x8FD).root(10, 65536, 8, 0x8FF).run(1);
+        t.due("nothing yet", b.core.grown(), 0);
+        is(t, b, "just a root", 65536, 63, 0x8FD, 0);
+        is(t, b, "a byte less", 65536, 62, 0x8FD, 0);
+        is(t, b, "a byte less, from below", 65537, 62, 0x8FD, 0);
+        is(t, b, "a byte more", 65535, 63, 0x8FD, 1);
+        is(t, b, "a byte more, above", 65536 + 63, 63, 0x8FD, 0);
+        is(t, b, "a byte beyond all", 65536 + 64, 63, 0x8FD, 1);
+        is(t, b, "a part of two", 65536 + 60, 6, 0x8FD, 1);
+        is(t, b, "nothing, at an end", 65536 + 126, 0, 0x8FD, 0);
+        is(t, b, "nothing, beyond it", 65536 + 127, 0, 0x8FD, 1);
+        t.says("with PERMS among its: always 0.");
+        is(t, b, "no PERMS", 65536, 63, 0, 0);
+        is(t, b, "a PERM more", 65536, 63, 0x8FF, 1);
+        is(t, b, "a PERM instead", 65536, 63, 2, 1);
+        is(t, b, "the PERM that a shorter one has", 65536, 8, 0x8FF, 0);
+        is(t, b, "the PERM of one, the BOUNDS of the other", 65536, 9, 0x8FF, 1);
+        inMemory(t, b);
+    }
+
+    /** Register 5 gets these BOUNDS and PERMS, and a TAG. */
+    private static void is(Tests t, Bench b, String what, int base, int length, int perms, int due) {
+        int meta = perms << 20 | 15 << 16 | b.core.pack(base, length) & 32767;
+        b.core.put(5, base, meta ^ Bench.NULL_META);
+        t.due(what + ", no TAG", b.core.grown(), 0);
+        Inside.set(java.lang.reflect.Array.get(Inside.of(b.core, "state", "registers"), 5), "tagged", true);
+        t.due(what, b.core.grown(), due);
         b.core.put(5, 0, 0);
-        Inside.set(java.lang.reflect.Array.get(registers, 5), "tagged", true);
-        t.due("a whole space", b.core.grown(), 1);
-        Object sixth = java.lang.reflect.Array.get(registers, 6);
-        b.core.put(6, 65536, b.core.told(8, 2));
-        Inside.set(sixth, "tagged", true);
-        t.due("just a root", b.core.grown(), 1);
-        b.core.put(6, 65536, b.core.told(8, 2) ^ 1 << 21);
-        Inside.set(sixth, "tagged", true);
-        t.due("a PERM more", b.core.grown(), 2);
+    }
+
+    private static void inMemory(Tests t, Bench b) {
+        t.says("(in registers and MEMORY)");
+        t.due("as it was stored", b.core.grown(), 0);
         int[] cached = (int[]) Inside.of(b.core, "state", "memory", "cached");
         for (int i = 0; i < cached.length; i++) {
             if (cached[i] == 8192) {
                 cached[i] = 1 << 20;
             }
         }
-        t.due("an ADDRESS in memory", b.core.grown(), 3);
+        t.due("with another ADDRESS", b.core.grown(), 1);
+        b.core.put(5, 0, 0);
+        Inside.set(java.lang.reflect.Array.get(Inside.of(b.core, "state", "registers"), 5), "tagged", true);
+        t.due("and a register", b.core.grown(), 2);
+        b.core.word(2049, 0);
+        t.due("a register alone", b.core.grown(), 1);
     }
 }

@@ -154,6 +154,12 @@ public final class JumpEdgeTest {
                 b.dueCap(what + ": link", 5, true, 4, 0, 16384).dueKind(what + ": link", 5, 4095, 14);
             }
         }
+        for (int length = 60; length < 64; length++) {
+            Bench last = new Bench(t, Code.jalr(5, 6, 56)).root(6, CODE, length, Bench.RUN).run(1);
+            last.dueNoTrap("the last but one of " + length, CODE + 56);
+            Bench cut = new Bench(t, Code.jalr(5, 6, 60)).root(6, CODE, length, Bench.RUN).run(1);
+            cut.dueTrap("the last of " + length, 28, 32 * 6 + 1, 0);
+        }
         Bench beyond = new Bench(t, Code.jalr(5, 6, 0)).root(6, 16384, 8, Bench.RUN).run(1);
         beyond.dueNoTrap("JALR beyond MEMORY", 16384).run(1).dueTrap("what is there", 1, 16384, 16384);
     }

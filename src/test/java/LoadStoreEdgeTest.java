@@ -6,6 +6,7 @@ public final class LoadStoreEdgeTest {
     public static void main(String[] args) {
         Tests t = new Tests("Terms 3, edges of LOADS and STORES");
         signs(t);
+        neighbours(t);
         inBounds(t);
         multiples(t);
         inMemory(t);
@@ -61,6 +62,27 @@ public final class LoadStoreEdgeTest {
         Bench b = new Bench(t, Code.load(function, 5, 1, 0)).root(1, DATA, 64, ALL);
         b.core.word(DATA / 4, w);
         b.run(1).dueNumber("load " + function + " of " + w, 5, due);
+    }
+
+    /** Two words of ones, in which as many bytes as are stored become those of the number, and no others. */
+    private static void neighbours(Tests t) {
+        t.says("LOADS and STORES go by cs1 (at its ADDRESS and immediate, mod 2^32)");
+        for (int function = 0; function < 3; function++) {
+            int many = 1 << function;
+            for (int by = 0; by < 8; by += many) {
+                Bench b = new Bench(t, Code.store(function, 6, 1, by)).root(1, DATA, 64, ALL).number(6, 0x12345678);
+                b.core.word(DATA / 4, -1);
+                b.core.word(DATA / 4 + 1, -1);
+                b.run(1);
+                for (int k = 0; k < 8; k++) {
+                    int due = k < by || k >= by + many ? 255 : 0x12345678 >>> 8 * (k - by) & 255;
+                    int got = b.core.memory(DATA / 4 + k / 4) >>> 8 * (k % 4) & 255;
+                    t.due("byte " + k + " behind a store of " + many + " at " + by, got, due);
+                }
+                t.due("the WORD before", b.core.memory(DATA / 4 - 1), 0);
+                t.due("the WORD behind", b.core.memory(DATA / 4 + 2), 0);
+            }
+        }
     }
 
     private static void inBounds(Tests t) {

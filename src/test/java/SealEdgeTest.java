@@ -156,8 +156,12 @@ public final class SealEdgeTest {
         int[] all = new int[code.length + 1];
         System.arraycopy(code, 0, all, 0, code.length);
         all[code.length] = Code.invoke(5, 6);
-        Bench b = new Bench(t, all).root(1, CODE, 64, ofCode).root(2, DATA, 64, ofData).root(3, 0, 16, 4095);
-        return b.root(4, 11, 1, 4095).number(7, 13).run(all.length);
+        return invoke(t, 64, ofCode, ofData, all);
+    }
+
+    private static Bench invoke(Tests t, int length, int ofCode, int ofData, int[] code) {
+        Bench b = new Bench(t, code).root(1, CODE, length, ofCode).root(2, DATA, 64, ofData).root(3, 0, 16, 4095);
+        return b.root(4, 11, 1, 4095).run(code.length);
     }
 
     private static void invokeTypes(Tests t) {
@@ -211,7 +215,7 @@ public final class SealEdgeTest {
             + " c, open, there; register 31 is d, open.");
         for (int by = -4; by < 70; by++) {
             int x = CODE + by & ~1;
-            Bench b = invoke(t, 258, 256, Code.incOffset(1, 1, by), seal(5, 1, 4), seal(6, 2, 4));
+            Bench b = invoke(t, 258, 256, Code.incOffset(1, 1, by), seal(6, 2, 4), seal(5, 1, 4));
             String what = "by " + by;
             if (x < CODE || x > CODE + 60) {
                 b.dueTrap(what, 28, 32 * 5 + 1, 12).dueNumber(what + ": register 31", 31, 0);
@@ -220,6 +224,19 @@ public final class SealEdgeTest {
             } else {
                 b.dueNoTrap(what, x).dueCap(what, 32, true, x, CODE, 64).dueKind(what, 32, 258, 15);
                 b.dueCap(what + ": data", 31, true, DATA, DATA, 64).dueKind(what + ": data", 31, 256, 15);
+            }
+        }
+        for (int length = 60; length < 64; length++) {
+            for (int by = 56; by < 62; by++) {
+                int[] code = {Code.incOffset(1, 1, by), seal(6, 2, 4), seal(5, 1, 4), Code.invoke(5, 6)};
+                Bench b = invoke(t, length, 258, 256, code);
+                if (by < 58) {
+                    b.dueNoTrap("the last but one of " + length, CODE + 56);
+                } else if (by < 60 && length >= 62) {
+                    b.dueTrap("no multiple, of " + length, 0, CODE + 58, 12);
+                } else {
+                    b.dueTrap("the last of " + length, 28, 32 * 5 + 1, 12);
+                }
             }
         }
     }

@@ -8,6 +8,7 @@ public final class StagesTest {
             writtenFromOutside(t, ahead);
         }
         storedAsCapability(t);
+        lastWords(t);
         loopThatChangesItself(t);
         jumps(t);
         t.end();
@@ -58,6 +59,18 @@ public final class StagesTest {
             e.core.put(6, Code.addi(5, 0, 7), Code.addi(7, 0, 8));
             e.run(4 + ahead).dueNumber("the upper four bytes, " + ahead + " ahead", 7, 8);
             e.dueNumber("the lower four bytes, " + ahead + " ahead", 5, ahead == 0 ? 101 : 7);
+        }
+    }
+
+    /** There is nothing to take in behind the last word, which is what the one before it writes. */
+    private static void lastWords(Tests t) {
+        for (int function = 2; function < 4; function++) {
+            Bench b = new Bench(t, Code.special(0, 31, 2), Code.MRET).root(1, 16376, 8, 4095).root(2, 16376, 8, 4095);
+            b.core.word(4094, Code.store(function, 6, 1, function == 2 ? 4 : 0));
+            b.core.word(4095, Code.addi(5, 0, 9));
+            int last = Code.addi(5, 0, 7);
+            b.core.put(6, function == 2 ? last : 0, last);
+            b.run(4).dueNoTrap("the last word", 16384).dueNumber("the last word", 5, 7);
         }
     }
 
