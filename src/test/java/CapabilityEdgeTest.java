@@ -100,6 +100,13 @@ public final class CapabilityEdgeTest {
         one(t, BASE, 104, 100, Code.cap(8, 5, 1, 2)).dueCap("100 of 104", 5, true, BASE, BASE, 104);
         one(t, BASE, 96, 100, Code.cap(8, 5, 1, 2)).dueCap("100 of 96", 5, false, BASE, BASE, 104);
         one(t, BASE, 64, 64, Code.cap(8, 1, 1, 2)).dueCap("into itself", 1, true, BASE, BASE, 64);
+        // From 4 on 68 are up to TOP, and rounded down to BASE; 69 are one too many.
+        for (int many = 67; many < 70; many++) {
+            int[] code = {Code.incOffset(1, 1, 4), Code.cap(8, 5, 1, 2), Code.setBounds(6, 1, many)};
+            Bench b = new Bench(t, code).root(1, BASE, 72, 4095).number(2, many).run(3);
+            b.dueCap(many + " from 4 on", 5, many < 69, BASE + 4, BASE, many < 69 ? 72 : 80);
+            b.dueCap(many + " from 4 on, by immediate", 6, many < 69, BASE + 4, BASE, many < 69 ? 72 : 80);
+        }
     }
 
     private static void boundsKinds(Tests t) {
